@@ -12,6 +12,7 @@ public final class ListTest {
         tooMany();
         again();
         listBegins();
+        listBeginsAnew();
         faultyListChangesNothing();
         asked();
         feet();
@@ -100,6 +101,8 @@ public final class ListTest {
         text("shoe\t1 1 1;", -11, 4);
         text("shoe 1 1 1;\n", -11, 11);
         text("sho e 1 1 1;", -11, 0);
+        text("ahoe 1 1 1;", -11, 0);
+        text("dirl 0 1 1 1;", -11, 0);
         text("noon 1 2;", -11, 7);
         text("noonnoon 1;", -11, 0);
         text("house 1;girl 0 1 1 1;gait 0;", -11, 27);
@@ -199,6 +202,27 @@ public final class ListTest {
         DUE.is("told(0) behind it", x.told(0), 0);
         DUE.is("told(8) behind it", x.told(8), NONE);
         DUE.is("told(10) behind it", x.told(10), NONE);
+    }
+
+    private static void listBeginsAnew() {
+        SlipperFits x = new SlipperFits();
+        String list = "noon23;shoe99 8 7;house5;girl0 92 2 2;gait0ab;she0;";
+        DUE.is("list()", Due.tell(x, list), 1);
+        DUE.is("noon without a blank", x.told(7), 23);
+        DUE.is("S without a blank", x.told(4), 99);
+        DUE.is("stairs without a blank", x.house(0, 0), 5);
+        DUE.is("letters without a blank", x.girl(0, 8), 2);
+        DUE.is("attempt()", x.attempt(), 1);
+        DUE.is("found", x.told(14), 1);
+        Due.tell(x, "noon 99;");
+        DUE.is("a fault", x.fault(), 5);
+        DUE.is("the same list again has no fault", Due.tell(x, list), 1);
+        DUE.is("no fault any more", x.fault(), NONE);
+        DUE.is("not found any more", x.told(14), 0);
+        DUE.is("a list of a girl without gait", Due.tell(x, "house 0;girl 0 1 0 0;"), 1);
+        DUE.is("her row is a", x.girl(0, 8), 1);
+        x.step(1);
+        DUE.is("her row is no more ab", x.walker(), 0);
     }
 
     private static void faultyListChangesNothing() {

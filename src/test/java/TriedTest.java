@@ -38,6 +38,9 @@ public final class TriedTest {
         DUE.is("nothing changes by it", x.told(9) + x.told(10), 0);
         x.go(4);
         path(x, 0, 4, 5, 3);
+        SlipperFits over = Due.told("house 0;house 0;house 0;way 0 1;way 0 2;girl 2 30 0 0;");
+        over.go(1);
+        path(over, 0, 1, 0, 2);
         DUE.is("round without houses", new SlipperFits().round(0, NONE), UNKNOWN);
         DUE.is("round(0, MIN)", x.round(0, Integer.MIN_VALUE), NONE);
         DUE.is("round(0, MAX)", x.round(0, Integer.MAX_VALUE), NONE);
@@ -103,6 +106,8 @@ public final class TriedTest {
         chased("house 0;house 0;house 0;house 0;house 0;way 0 1;way 1 2;way 2 3;way 3 4;", 2, 1);
         chased(SIX + "way 0 1;way 1 2;way 2 3;way 3 4;way 4 5;", 3, 1);
         chased(SIX + "way 0 1;way 1 2;way 2 3;way 3 4;way 4 5;way 5 0;", NONE, 1);
+        // a path whose midst is 0
+        chased("house 0;house 0;house 0;house 0;house 0;way 1 3;way 0 1;way 0 2;way 2 4;", 2, 1);
         // two rings of three apart
         chased(SIX + "way 0 1;way 1 2;way 2 0;way 3 4;way 4 5;way 5 3;", NONE, 1);
         // a ring of four and a path of two: one herald each, and the ring needs both
@@ -132,6 +137,8 @@ public final class TriedTest {
         x.pad(0, 5);
         x.soak(0);
         DUE.is("rule: her padding, her water do not count", x.rule(0, 1), 12);
+        SlipperFits first = Due.told("house 0;girl 0 25 0 0;girl 0 30 0 0;");
+        DUE.is("rule: the first passes, too", first.rule(1, 0), NONE);
         SlipperFits alone = Due.told("noon 22;shoe 30 0 1;house 0;girl 0 25 5 0;");
         DUE.is("rule of one alone: a", alone.rule(0, 0), 22);
         DUE.is("rule of one alone: b", alone.rule(0, 1), 23);
@@ -151,6 +158,7 @@ public final class TriedTest {
         DUE.is("passes(1, 0, 0)", x.passes(1, 0, 0), 3);
         DUE.is("passes(1, 0, 10)", x.passes(1, 0, 10), NONE);
         DUE.is("passes(2, 0, 0)", x.passes(2, 0, 0), NONE);
+        DUE.is("passes without padding", Due.told("house 0;girl 0 29 1 0;").passes(0, 0, 12), 0);
         x.pad(0, 3);
         x.soak(0);
         x.attempt();
