@@ -713,10 +713,6 @@ public final class SlipperFits {
             return hasHouse(h) ? ways[h] | 1 << h : 0;
         }
 
-        int stairsOf(int h) {
-            return hasHouse(h) ? stairs[h] : 0;
-        }
-
         boolean isAfternoon(int hour) {
             return Math.floorMod(hour, DAY) >= noon;
         }
@@ -818,8 +814,13 @@ public final class SlipperFits {
             night = itsNight;
         }
 
+        /** Looks at its indices itself: it is where the calls stand deepest. */
         int unswollenFoot(int g) {
-            return tale.hasGirl(g) ? tale.length[g] + tale.stairsOf(night.home[g]) : 0;
+            if (g < 0 || g >= MOST_GIRLS) {
+                return 0;
+            }
+            int h = night.home[g];
+            return h < 0 || h >= MOST_HOUSES ? tale.length[g] : tale.length[g] + tale.stairs[h];
         }
 
         int bareFoot(int g, int hour) {

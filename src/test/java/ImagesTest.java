@@ -67,6 +67,8 @@ public final class ImagesTest {
         x.goBack(0);
         DUE.is("hour of the new image", x.told(9), 0);
         SlipperFits none = new SlipperFits();
+        DUE.is("goBack(0) of a new object", none.goBack(0), NOT);
+        DUE.is("goBack(1) of a new object", none.goBack(1), NOT);
         DUE.is("keep(0) without a list", none.keep(0), 1);
         none.pass(4);
         DUE.is("goBack(0) without a list", none.goBack(0), 1);

@@ -1,6 +1,10 @@
 import java.nio.charset.StandardCharsets;
 import java.nio.file.Files;
 import java.nio.file.Path;
+import java.util.HashSet;
+import java.util.Map;
+import java.util.Set;
+import java.util.TreeMap;
 import java.util.regex.Matcher;
 import java.util.regex.Pattern;
 
@@ -8,6 +12,7 @@ import java.util.regex.Pattern;
 public final class LanguageTest {
     private static final int MOST_METHOD_LINES = 60;
     private static final int MOST_CLASSES = 12;
+    private static final int DEEPEST = 8;
 
     public static void main(String[] args) throws Exception {
         Due due = new Due("LanguageTest");
@@ -50,6 +55,33 @@ public final class LanguageTest {
             }
             due.holds(m.group(2) + " is short", end - i <= MOST_METHOD_LINES);
             due.holds(m.group(2) + " has seven parameters at most", m.group(3).split(",").length <= 7);
+            addCalls(m.group(2), String.join("\n", java.util.Arrays.copyOfRange(lines, i + 1, end)));
         }
+        for (String method : CALLS.keySet()) {
+            int deep = depth(method, 1);
+            due.holds(method + " goes " + deep + " deep", deep <= DEEPEST);
+        }
+    }
+
+    /** By name alone: methods of one name in two classes count as one, which can only make it deeper. */
+    private static final Map<String, Set<String>> CALLS = new TreeMap<>();
+
+    private static void addCalls(String method, String body) {
+        Set<String> calls = CALLS.computeIfAbsent(method, name -> new HashSet<>());
+        Matcher m = Pattern.compile("(\\w+)\\(").matcher(body);
+        while (m.find()) {
+            calls.add(m.group(1));
+        }
+    }
+
+    /** Library calls, which have no body here, count as one more; a recursion would end at 50. */
+    private static int depth(String method, int level) {
+        int deepest = level;
+        if (level < 50 && CALLS.containsKey(method)) {
+            for (String called : CALLS.get(method)) {
+                deepest = Math.max(deepest, depth(called, level + 1));
+            }
+        }
+        return deepest;
     }
 }
