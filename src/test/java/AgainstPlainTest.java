@@ -126,14 +126,21 @@ public final class AgainstPlainTest {
         Plain p = new Plain();
         String run = "run " + number;
         int calls = tell(run, x, p, randomText(in(8) ? 1 : 0));
-        int again = in(3) ? 300 + upTo(100) : CALLS;
+        int again = in(3) ? 250 + upTo(60) : CALLS;
         for (; calls < CALLS; calls++) {
             if (calls > again) {
-                calls += tell(run, x, p, randomText(in(2) ? 2 : 0));
+                calls = tellAgain(run, x, p, calls);
                 again = CALLS;
             }
             call(run, x, p, random.nextInt(CHANGING));
         }
+    }
+
+    /** Another list, if it can be told within the calls for which an object is used. */
+    private static int tellAgain(String run, SlipperFits x, Plain p, int calls) {
+        String text = randomText(in(2) ? 2 : 0);
+        boolean room = calls + text.length() + 2 < CALLS;
+        return room ? calls + tell(run, x, p, text) : calls;
     }
 
     private static int girl(Plain p) {
