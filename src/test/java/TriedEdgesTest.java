@@ -458,6 +458,10 @@ public final class TriedEdgesTest {
         DUE.is("102 longer by 98", Due.told("shoe 1 9 98;house 9;girl 0 94 0 0;girl 0 94 0 0;").worn(0, 1, 0), 9996);
         DUE.is("103 longer by 98", Due.told("shoe 1 9 98;house 9;girl 0 95 0 0;girl 0 94 0 0;").worn(0, 1, 0), NONE);
         DUE.is("100 longer by 99", Due.told("shoe 1 9 99;house 9;girl 0 92 0 0;girl 0 92 0 0;").worn(0, 1, 0), 9900);
+        // of all that there can be, 10005 is the least above 9999
+        SlipperFits above = Due.told("shoe 1 9 87;noon 1;house 9;girl 0 98 9 0;girl 0 98 9 0;girl 0 97 9 0;girl 0 97 9 0;");
+        DUE.is("115 longer by 87", above.worn(0, 1, 1), NONE);
+        DUE.is("114 longer by 87", above.worn(2, 3, 1), 9918);
         SlipperFits never = Due.told("shoe 30 1 0;house 0;girl 0 30 0 0;girl 0 30 0 0;girl 0 31 0 0;");
         DUE.is("never longer, and it fits", never.worn(0, 1, 0), 0);
         DUE.is("never longer, and it does not", never.worn(0, 2, 0), NONE);
