@@ -326,9 +326,16 @@ public final class TriedEdgesTest {
         rule(she + "0 24 9 0;girl 0 26 0 0;", 0, NONE, NONE);
         rule("shoe 30 0 0;house 0;girl 0 26 0 0;girl 0 30 0 0;", 1, NONE, NONE);
         rule("shoe 30 0 0;house 0;girl 0 26 1 0;girl 0 30 0 0;", 1, 0, 12);
+        // a shoe so short that padding alone would fit it: who is not there does not pass
+        rule("shoe 5 0 0;house 0;girl 0 5 0 0;", 0, 0, 1);
+        rule("shoe 1 0 0;house 0;girl 0 1 0 0;girl 0 2 0 0;", 0, 0, 1);
         SlipperFits x = Due.told("shoe 30 0 0;house 0;girl 0 30 0 0;girl 0 24 0 0;");
         x.pad(1, 5);
         DUE.is("rule(0, 1): what the other is padded by now does not count", x.rule(0, 1), 1);
+        Due.tell(x, "house 0;girl 0 30 0 0;girl 0 30 0 0;");
+        DUE.is("rule(0, 1): the other passes", x.rule(0, 1), NONE);
+        Due.tell(x, "house 0;girl 0 30 0 0;");
+        DUE.is("rule(0, 1): the other is of an earlier list", x.rule(0, 1), 1);
     }
 
     private static void ruleCalls() {
