@@ -2,9 +2,14 @@ import java.lang.reflect.Constructor;
 import java.lang.reflect.Field;
 import java.lang.reflect.Method;
 import java.lang.reflect.Modifier;
+import java.nio.charset.StandardCharsets;
+import java.nio.file.Files;
+import java.nio.file.Path;
 import java.util.Arrays;
 import java.util.Set;
 import java.util.TreeSet;
+import java.util.regex.Matcher;
+import java.util.regex.Pattern;
 
 /** The face has what the document's "public face" has, and nothing else. */
 public final class FaceTest {
@@ -14,7 +19,7 @@ public final class FaceTest {
         + "see(int,boolean) could() next() step(int) walker() write(int,int,boolean) tear() judge() seed(int) keep(int) "
         + "goBack(int)";
 
-    public static void main(String[] args) {
+    public static void main(String[] args) throws Exception {
         Due due = new Due("FaceTest");
         Class<?> c = SlipperFits.class;
         due.holds("the class is public and final", Modifier.isPublic(c.getModifiers()) && Modifier.isFinal(c.getModifiers()));
@@ -33,10 +38,15 @@ public final class FaceTest {
                     Modifier.isPublic(m.getModifiers()) && !Modifier.isStatic(m.getModifiers()) && m.getReturnType() == int.class);
             }
         }
+        for (Class<?> inside : c.getDeclaredClasses()) {
+            for (Method m : inside.getDeclaredMethods()) {
+                hidden.add(m.getName());
+            }
+        }
         Set<String> wanted = new TreeSet<>(Arrays.asList(METHODS.split(" ")));
         due.holds("the methods are the document's: " + open, open.equals(wanted));
         for (String sign : wanted) {
-            due.holds("no private method is named " + sign, !hidden.contains(sign.substring(0, sign.indexOf('('))));
+            due.holds("no other method is named " + sign, !hidden.contains(sign.substring(0, sign.indexOf('('))));
         }
         Constructor<?>[] made = c.getDeclaredConstructors();
         due.holds("one public constructor without parameters",
@@ -55,6 +65,22 @@ public final class FaceTest {
         due.is("OUTSIDE", SlipperFits.OUTSIDE, -1000000002);
         due.is("NOT", SlipperFits.NOT, -1000000003);
         due.is("FULL", SlipperFits.FULL, -1000000004);
+        asTheDocumentHasIt(due);
         due.end();
+    }
+
+    /** The document's own lines, so that a call that it gains or changes is missed here. */
+    private static void asTheDocumentHasIt(Due due) throws Exception {
+        Path file = Path.of("../shared/DOC.md");
+        if (!Files.exists(file)) {
+            System.out.println("FaceTest: no document here, so its face is not looked at");
+            return;
+        }
+        Set<String> face = new TreeSet<>();
+        Matcher m = Pattern.compile("(?m)^    public int (\\w+)\\(([^)]*)\\);$").matcher(Files.readString(file, StandardCharsets.UTF_8));
+        while (m.find()) {
+            face.add(m.group(1) + "(" + m.group(2).replaceAll(" \\w+(, )?", "$1").replace(", ", ",") + ")");
+        }
+        due.holds("the document's face is " + face, face.equals(new TreeSet<>(Arrays.asList(METHODS.split(" ")))));
     }
 }

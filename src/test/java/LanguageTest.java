@@ -1,6 +1,9 @@
+import java.lang.reflect.Field;
+import java.lang.reflect.Modifier;
 import java.nio.charset.StandardCharsets;
 import java.nio.file.Files;
 import java.nio.file.Path;
+import java.util.Arrays;
 import java.util.HashSet;
 import java.util.Map;
 import java.util.Set;
@@ -13,6 +16,7 @@ public final class LanguageTest {
     private static final int MOST_METHOD_LINES = 60;
     private static final int MOST_CLASSES = 12;
     private static final int DEEPEST = 8;
+    private static final int MOST_FIELDS = 20;
 
     public static void main(String[] args) throws Exception {
         Due due = new Due("LanguageTest");
@@ -38,7 +42,22 @@ public final class LanguageTest {
         }
         due.holds(count + " classes", count <= MOST_CLASSES);
         lookAtMethods(due, code);
+        lookAtFields(due, SlipperFits.class);
+        for (Class<?> inside : SlipperFits.class.getDeclaredClasses()) {
+            due.holds(inside.getName() + " is static", Modifier.isStatic(inside.getModifiers()));
+            lookAtFields(due, inside);
+        }
         due.end();
+    }
+
+    private static void lookAtFields(Due due, Class<?> c) {
+        int fields = 0;
+        for (Field f : c.getDeclaredFields()) {
+            boolean constant = Modifier.isStatic(f.getModifiers());
+            fields += constant ? 0 : 1;
+            due.holds(c.getName() + "'s " + f.getName() + " is no static state", !constant || Modifier.isFinal(f.getModifiers()));
+        }
+        due.holds(c.getName() + " has " + fields + " fields", fields <= MOST_FIELDS);
     }
 
     private static void lookAtMethods(Due due, String code) {
@@ -55,7 +74,10 @@ public final class LanguageTest {
             }
             due.holds(m.group(2) + " is short", end - i <= MOST_METHOD_LINES);
             due.holds(m.group(2) + " has seven parameters at most", m.group(3).split(",").length <= 7);
-            addCalls(m.group(2), String.join("\n", java.util.Arrays.copyOfRange(lines, i + 1, end)));
+            String body = String.join("\n", Arrays.copyOfRange(lines, i + 1, end));
+            boolean constructor = Character.isUpperCase(m.group(2).charAt(0));
+            due.holds(m.group(2) + " makes no objects: all calls of a run live in one room", constructor || !body.contains("new "));
+            addCalls(m.group(2), body);
         }
         for (String method : CALLS.keySet()) {
             int deep = depth(method, 1);
